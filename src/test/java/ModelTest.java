@@ -16,7 +16,7 @@ public final class ModelTest {
 
     public static void main(String[] args) {
         ModelTest test = new ModelTest();
-        for (int run = 0; run < 400; run++) test.run(run);
+        for (int run = 0; run < 150; run++) test.run(run);
         test.checks.end();
     }
 
