@@ -96,7 +96,8 @@ public final class TreeToTree {
 
     public int tree(int kind, int v, int holds, int place) {
         if (!within(kind, KIND_TREE, KIND_TOLD)) return NONE;
-        if (!within(v, 0, 9) || !within(holds, 0, LARGEST) || !within(place, 0, LARGEST)) return BAD;
+        if (!within(v, 0, 9) || !within(holds, 0, LARGEST)) return BAD;
+        if (!within(place, 0, LARGEST)) return BAD;
         int count = number(TREE_COUNT);
         if (!within(count, 0, Math.min(trees.length, spots.length) - 1)) return FULL;
         Spot spot = spots[count];
@@ -444,7 +445,8 @@ public final class TreeToTree {
     public int looked() {
         for (int i = 0; i < entries.size; i++) {
             Tree shelter = treeAt(entries.cell(i, 0));
-            if (shelter != null && shelter.wetAt(entries.cell(i, 1)) != entries.cell(i, 2)) return i;
+            if (shelter == null) continue;
+            if (shelter.wetAt(entries.cell(i, 1)) != entries.cell(i, 2)) return i;
         }
         return NOTHING;
     }
@@ -680,7 +682,7 @@ public final class TreeToTree {
         return true;
     }
 
-    /** Ways alike in all three come in the order that the document asks, so that the first stays. */
+    /** Ways alike in all three come in the order that the document asks: the first one stays. */
     private boolean isBetter(int measure, int minutes, int shelters) {
         if (measure != best[0]) return measure < best[0];
         if (minutes != best[1]) return minutes < best[1];
@@ -696,11 +698,11 @@ public final class TreeToTree {
 
     /** A part of the fraction in lowest terms: 0 above, else below the line. */
     private static long lowest(int above, int below, int part) {
-        int divisor = 1;
-        for (int d = below; d > 1 && divisor == 1; d--) {
-            if (above % d == 0 && below % d == 0) divisor = d;
+        int asked = part == 0 ? above : below;
+        for (int d = below; d > 1; d--) {
+            if (above % d == 0 && below % d == 0) return asked / d;
         }
-        return (part == 0 ? above : below) / divisor;
+        return asked;
     }
 
     /** Rows of numbers, up to a limit, that can be kept and brought back. */
@@ -768,7 +770,7 @@ public final class TreeToTree {
     private static final class Park {
         private static final int MOST_CLAUSES = 10, MOST_OPEN = 5, END = -1;
 
-        /** A code is a number and 100 times its action: one of these, or a test's, which is less. */
+        /** A code is its action by 100 and a number; actions below these are tests. */
         private static final int NOT = 15, AND = 16, OR = 17, MORE = 18, LESS = 19;
 
         private int soak = LARGEST, waitCost = 1;
@@ -1162,9 +1164,9 @@ public final class TreeToTree {
         }
 
         int wetAt(int minute) {
-            int k = minute % more.length;
             int wet = super.wetAt(minute);
-            return k >= 0 && isAboveHolds(minute) ? wet + more[k] : wet;
+            int k = minute % 4;
+            return k >= 0 && k < more.length && isAboveHolds(minute) ? wet + more[k] : wet;
         }
 
         int actDrips(Rows bodies, int x) {

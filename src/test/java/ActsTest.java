@@ -171,6 +171,13 @@ public final class ActsTest {
         due("45: back", x.undo(), 1);
         due("45: soak", x.told(1), 99);
         due("45: rain", x.rain(0, 0), 5);
+        Checks.park(x, "rain 3 k=1;rain 6 v=8");
+        x.image();
+        x.tree(1, 0, 0, 0);
+        due("45: rain at a thick one", x.rain(1, 0), 7);
+        x.undo();
+        x.tree(2, 8, 0, 0);
+        due("45: rain at another in its stead", x.rain(1, 0), 10);
         TreeToTree y = new TreeToTree();
         y.image();
         Checks.park(y, "soak 9;wait 5;rain 8 m<9");

@@ -36,6 +36,9 @@ public final class CoatsTest {
         due("25: soak 0", x.coats(1), 0);
         x.home(0);
         due("25: at home", x.coats(0), 0);
+        x.home(60);
+        Checks.park(x, "rain 5 m=0");
+        due("25: from now on", x.coats(0), 29);
     }
 
     private static void shared() {
@@ -59,6 +62,8 @@ public final class CoatsTest {
         x.gear(1, 20, 1);
         Checks.park(x, "soak 99");
         due("26: halves of 1 and 1", x.shared(0, 1), 46);
+        Checks.park(x, "rain 5 m=0");
+        due("26: from now on", x.shared(0, 1), 56);
     }
 
     private static void run() {
@@ -123,6 +128,13 @@ public final class CoatsTest {
         due("29: tree 3", x.worth(3), NONE);
         due("29: tree -1", x.worth(-1), NONE);
         due("29: changes nothing", x.count(0), 3);
+        TreeToTree y = new TreeToTree();
+        Checks.park(y, "less 4 h=1");
+        y.walker(20, 0);
+        y.tree(0, 0, 99, 0);
+        due("29: wet at all events", y.worth(0), 8);
+        y.walker(20, 0);
+        due("29: two of them", y.worth(0), 16);
     }
 
     private static void first() {
@@ -139,6 +151,10 @@ public final class CoatsTest {
         due("30: soonest", x.first(1), 1);
         x.walker(19, 0);
         due("30: soonest, the first of two alike", x.first(1), 1);
+        x.gear(0, 20, 99);
+        due("30: the very first, driest", x.first(0), 0);
+        due("30: the very first, soonest", x.first(1), 0);
+        x.gear(0, 1, 0);
         x.gear(4, 20, 0);
         due("30: soonest now", x.first(1), 4);
     }

@@ -109,6 +109,7 @@ public final class ParksTest {
         due("3: the one that held holds: soak", x.told(1), 50);
         due("3: wait", x.told(2), 3);
         due("3: rain", x.told(4), 4);
+        due("3: a longer fault", Checks.park(x, "rain 6 m=0;rain 7 m=0|m=1;less 8 m=0&k=9;x"), -51);
         due("3: second", Checks.park(x, "rain 6 m=0"), 1);
         due("3: soak without", x.told(1), 99);
         due("3: wait without", x.told(2), 1);

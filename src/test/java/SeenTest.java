@@ -27,6 +27,9 @@ public final class SeenTest {
         due("32: -1", x.see(-1), BAD);
         due("32: 100", x.see(100), BAD);
         due("32: as it was", x.see(5), 0);
+        due("32: nothing else", x.count(2), 0);
+        Checks.park(x, "soak 1");
+        due("32: a park changes it not", x.see(6), 5);
     }
 
     private static void stood() {
@@ -70,6 +73,9 @@ public final class SeenTest {
         due("34: dry", x.who(), 0b11000);
         x.see(1);
         due("34: none", x.who(), 0);
+        Checks.park(x, "rain 5 m=0");
+        x.see(17);
+        due("34: from now on", x.who(), 0b00010);
     }
 
     private static void odds() {
@@ -101,6 +107,7 @@ public final class SeenTest {
     private static void mean() {
         TreeToTree x = new TreeToTree();
         x.tree(0, 0, 10, 0);
+        fraction("36: 1", x.mean(0, 1, 0), x.mean(0, 1, 1), 0, 1);
         fraction("36: 2", x.mean(0, 2, 0), x.mean(0, 2, 1), 0, 1);
         fraction("36: 3", x.mean(0, 3, 0), x.mean(0, 3, 1), 2, 3);
         fraction("36: 4", x.mean(0, 4, 0), x.mean(0, 4, 1), 3, 2);
@@ -137,6 +144,7 @@ public final class SeenTest {
         x.walker(10, 0);
         x.tree(0, 0, 20, 10);
         x.tree(2, 2, 99, 30);
+        x.tree(2, 2, 99, 99);
         due("38: no rows", x.ruled(0, 0), 24);
         x.rule(0, 4);
         // There at 1, dry till 4, wet at 5; then 5 minutes home.
@@ -147,8 +155,11 @@ public final class SeenTest {
         due("38: on to the next: wet", x.ruled(0, 0), 4 + 8 + 34 + 12);
         due("38: on to the next: minutes", x.ruled(0, 1), 1 + 4 + 2 + 17 + 3);
         x.rule(0, -1);
-        x.rule(1, 2);
+        x.rule(2, 2);
         due("38: passed over", x.ruled(0, 1), 6);
+        x.rule(0, -1);
+        x.rule(2, 3);
+        due("38: not passed over", x.ruled(0, 1), 10 + 14 + 4);
         x.rule(0, -1);
         x.rule(0, 5);
         due("38: 20 at most", x.ruled(0, 1), 1 + 20 + 5);

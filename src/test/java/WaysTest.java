@@ -79,6 +79,9 @@ public final class WaysTest {
         due("17: bad ahead of state", x.leg(-1, 2), BAD);
         due("17: none by home", x.leg(-1, -1), 0);
         due("17: count", x.count(3), 0);
+        due("17: home at once", x.leg(-1, 0), 1);
+        due("17: behind that", x.leg(0, 0), STATE);
+        x.leg(0, -1);
         for (int i = 1; i <= 3; i++) x.leg(0, 0);
         due("17: home as the fourth", x.leg(-1, 0), 4);
         due("17: state ahead of full", x.leg(0, 0), STATE);
@@ -126,6 +129,17 @@ public final class WaysTest {
     private static void driest() {
         TreeToTree x = gaps("");
         all("19: by two trees", x, false, 0, 11, 2, 0, 4, 1, 4);
+        TreeToTree turned = new TreeToTree();
+        Checks.park(turned, GAPS);
+        turned.walker(20, 0);
+        turned.tree(0, 0, 99, 40);
+        turned.tree(0, 0, 99, 20);
+        all("19: by two trees, the second first", turned, false, 0, 11, 2, 1, 4, 0, 4);
+        // Dry walks are at 0, 5 and 16 alone: waiting 10 minutes is not among the ways.
+        Checks.park(turned, "less 4 m=0&h=0|m=5&h=0|m=6&h=1");
+        all("19: 9 at most", turned, false, 4, 6, 1, 0, 3, NOTHING, NOTHING);
+        Checks.park(turned, "less 4 m=0&h=0|m=5&h=0|m=5&h=1");
+        all("19: 9 under the second", turned, false, 0, 16, 2, 1, 4, 0, 9);
         x.gear(0, 20, 4);
         all("19: by one tree, with a coat", x, false, 0, 6, 1, 0, 3, NOTHING, NOTHING);
         x.gear(0, 20, 8);
@@ -152,6 +166,12 @@ public final class WaysTest {
         y.tree(0, 0, 99, 0);
         y.home(0);
         all("19: no tree of ways alike", y, false, 0, 0, 0, NOTHING, NOTHING, NOTHING, NOTHING);
+        TreeToTree s = new TreeToTree();
+        Checks.park(s, "less 4 m>2|h>0");
+        s.walker(20, 4);
+        s.tree(0, 0, 99, 10);
+        s.tree(0, 0, 99, 20);
+        all("19: the sooner one, though of the second tree", s, false, 0, 5, 1, 1, 2, NOTHING, NOTHING);
         TreeToTree z = new TreeToTree();
         z.walker(20, 0);
         for (int i = 0; i < 6; i++) z.tree(0, 0, 0, 99);
@@ -184,6 +204,11 @@ public final class WaysTest {
         z.tree(0, 0, 99, 0);
         due("21: 20 at most", z.stay(0, 0, 0), 20);
         due("21: none wet then", z.stay(0, 0, 1), 0);
+        TreeToTree w = new TreeToTree();
+        w.walker(20, 0);
+        w.tree(0, 0, 99, 20);
+        due("21: not at all", w.stay(0, 0, 0), 0);
+        due("21: cost of that", w.stay(0, 0, 1), 15);
         due("21: what 2", x.stay(0, 0, 2), NONE);
         due("21: what -1", x.stay(0, 0, -1), NONE);
         due("21: walker 1", x.stay(1, 0, 0), NONE);
@@ -211,6 +236,10 @@ public final class WaysTest {
         due("22: later rain", x.soaked(0), 6);
         x.go(4);
         due("22: from now", x.soaked(0), 2);
+        x.go(12);
+        due("22: from now, with rain ahead", x.soaked(0), 1);
+        x.gear(0, 1, 7);
+        due("22: and a coat", x.soaked(0), 2);
     }
 
     private static void dry() {
