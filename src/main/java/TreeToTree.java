@@ -231,11 +231,15 @@ public final class TreeToTree {
     }
 
     public int driest(int walker, int what) {
-        return searched(walker, what, WET);
+        if (!walkers.has(walker) || !within(what, 0, best.length - 1)) return NONE;
+        search(walker, WET, -1);
+        return best[what];
     }
 
     public int cheapest(int walker, int what) {
-        return searched(walker, what, COST);
+        if (!walkers.has(walker) || !within(what, 0, best.length - 1)) return NONE;
+        search(walker, COST, -1);
+        return best[what];
     }
 
     public int stay(int walker, int tree, int what) {
@@ -631,12 +635,6 @@ public final class TreeToTree {
         }
     }
 
-    private int searched(int walker, int what, int measured) {
-        if (!walkers.has(walker) || !within(what, 0, best.length - 1)) return NONE;
-        search(walker, measured, -1);
-        return best[what];
-    }
-
     /** Finds the best way of a walker by WET or COST that goes to no more than two trees. */
     private void search(int walker, int measured, int leftOut) {
         best[0] = Integer.MAX_VALUE;
@@ -722,22 +720,20 @@ public final class TreeToTree {
             return row >= 0 && row < size;
         }
 
-        private boolean has(int row, int column) {
-            return row >= 0 && row < size && column >= 0 && column < width;
-        }
-
         boolean full() {
             return size >= limit;
         }
 
         int cell(int row, int column) {
+            if (row < 0 || row >= size || column < 0 || column >= width) return 0;
             int i = row * width + column;
-            return has(row, column) && i < cells.length ? cells[i] : 0;
+            return i >= 0 && i < cells.length ? cells[i] : 0;
         }
 
         void set(int row, int column, int n) {
+            if (row < 0 || row >= size || column < 0 || column >= width) return;
             int i = row * width + column;
-            if (has(row, column) && i < cells.length) cells[i] = n;
+            if (i >= 0 && i < cells.length) cells[i] = n;
         }
 
         /** Columns that these rows do not have are passed over. Answers the new row's place. */
@@ -936,7 +932,7 @@ public final class TreeToTree {
                     bits = (bits << 1) | (comparison == action % 3 ? 1 : 0);
                 }
             }
-            return Math.max(0, rain);
+            return rain < 0 ? 0 : rain;
         }
     }
 
