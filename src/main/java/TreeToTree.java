@@ -207,11 +207,11 @@ public final class TreeToTree {
     }
 
     public int leg(int tree, int wait) {
-        if (treeAt(tree) == null && tree != -1) return NONE;
         if (wait == -1) {
             legs.clear();
             return 0;
         }
+        if (treeAt(tree) == null && tree != -1) return NONE;
         if (!within(wait, 0, tree == -1 ? 0 : LONGEST_WAIT)) return BAD;
         if (legs.size > 0 && legs.cell(legs.size - 1, 0) == -1) return STATE;
         if (legs.full()) return FULL;

@@ -166,11 +166,11 @@ final class ModelCalls {
     }
 
     private int leg(int tree, int wait) {
-        if (tree != -1 && !tree(tree)) return -1;
         if (wait == -1) {
             m.w.legs.clear();
             return 0;
         }
+        if (tree != -1 && !tree(tree)) return -1;
         if (!in(wait, 0, 20) || tree == -1 && wait != 0) return -2;
         for (int[] leg : m.w.legs) {
             if (leg[0] == -1) return -3;

@@ -59,6 +59,8 @@ public final class WaysTest {
 
     private static void legs() {
         TreeToTree x = new TreeToTree();
+        due("17: none then, though there is no tree", x.leg(0, -1), 0);
+        due("17: no tree", x.leg(0, 0), NONE);
         x.tree(0, 0, 10, 30);
         due("17: tree 1", x.leg(1, 0), NONE);
         due("17: tree -2", x.leg(-2, 0), NONE);
@@ -81,6 +83,12 @@ public final class WaysTest {
         due("17: count", x.count(3), 0);
         due("17: home at once", x.leg(-1, 0), 1);
         due("17: behind that", x.leg(0, 0), STATE);
+        int[] whatever = {0, 1, 9, -2, Integer.MIN_VALUE, Integer.MAX_VALUE};
+        for (int tree : whatever) {
+            due("17: none then, whatever the tree", x.leg(tree, -1), 0);
+            due("17: count", x.count(3), 0);
+            due("17: a leg again", x.leg(0, 0), 1);
+        }
         x.leg(0, -1);
         for (int i = 1; i <= 3; i++) x.leg(0, 0);
         due("17: home as the fourth", x.leg(-1, 0), 4);
