@@ -150,9 +150,16 @@ final class WaySentences extends Group {
         for (int i = 0; i < 4; i++) x.leg(i % 2, 20);
         due("minutes", x.way(0, 1), 5 * 99 + 80);
         due("wet by 1 at 1003, 1013 and so on till 1573, the last minute", x.way(0, 0), 58);
+        for (int i = 0; i < 4; i++) x.rule(i % 2, 9);
+        due("minutes by a rule", x.ruled(0, 1), 5 * 99 + 80);
+        due("wet by a rule", x.ruled(0, 0), 58);
         x.gear(0, 20, 0);
         x.hold(0, 99);
         due("as all is now", x.way(0, 1), 5 * 5 + 80);
+        Checks.park(x, "less 4 h>99");
+        due("it stops in 1", x.stops(), 1);
+        due("begun in 1 it is dry", x.begin(0, 30), 1);
+        due("wet for a minute", x.straight(0, 0), 4);
 
         x = says(18, "and changes nothing.");
         Scene.fill(x);
