@@ -186,6 +186,8 @@ final class CoatSentences extends Group {
         Checks.park(x, "less 4 h=1");
         x.walker(20, 0);
         due("10, though it rains till then", x.begin(0, 30), 10);
+        Checks.park(x, "less 3 h=3");
+        due("30, by 9 less than at once, though 120 fall till then", x.begin(0, 30), 30);
     }
 
     private void worth() {

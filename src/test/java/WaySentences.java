@@ -124,7 +124,7 @@ final class WaySentences extends Group {
         x = says(16, "STRAIGHT of a WALKER: the way that goes HOME at once: WET, MINUTES, COST.");
         x.walker(7, 0);
         x.tree(0, 0, 99, 0);
-        x.leg(0, 20);
+        for (int i = 0; i < 4; i++) x.leg(0, 20);
         x.rule(0, 20);
         due("not by the legs", x.straight(0, 1), 9);
         x.home(0);
